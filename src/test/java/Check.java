@@ -1,0 +1,35 @@
+/** Counts and prints the answers that are not as due; a test ends with exit code 1 if there was one. */
+final class Check {
+    private static int asked = 0;
+    private static int wrong = 0;
+
+    private Check() {
+    }
+
+    static void due(String what, long got, long want) {
+        asked++;
+        if (got != want) {
+            wrong++;
+            System.out.println(what + " answered " + got + ", due is " + want);
+        }
+    }
+
+    static void holds(String what, boolean held) {
+        asked++;
+        if (!held) {
+            wrong++;
+            System.out.println(what + " does not hold");
+        }
+    }
+
+    static boolean anyWrong() {
+        return wrong != 0;
+    }
+
+    static void end() {
+        System.out.println(asked + " answers looked at, " + wrong + " not as due");
+        if (wrong != 0 || asked == 0) {
+            System.exit(1);
+        }
+    }
+}
