@@ -116,7 +116,7 @@ public final class WorkerRows {
     }
 
     public int tool(long edition, int quirk) {
-        if (toolCount >= TOOL_LIMIT) {
+        if (toolCount >= tools.length) {
             return NONE;
         }
         Tool added = new Tool(toolCount, edition, quirk);
@@ -152,7 +152,7 @@ public final class WorkerRows {
 
     public int request(int tool, long input, int size) {
         Tool found = toolAt(tool);
-        if (found == null || requestCount >= REQUEST_LIMIT || size < 0 || size > SIZE_LIMIT) {
+        if (found == null || requestCount >= requests.length || size < 0 || size > SIZE_LIMIT) {
             return NONE;
         }
         Request added = new Request(requestCount, found, input, size);
@@ -338,16 +338,17 @@ public final class WorkerRows {
         return freshRun(worker.edition, request.input) + drift;
     }
 
+    /** Null if there is none such; likewise for workers and requests. */
     private Tool toolAt(int number) {
-        return number < 0 || number >= toolCount || number >= tools.length ? null : tools[number];
+        return number < 0 || number >= tools.length ? null : tools[number];
     }
 
     private Worker workerAt(int number) {
-        return number < 0 || number >= workerCount || number >= workers.length ? null : workers[number];
+        return number < 0 || number >= workers.length ? null : workers[number];
     }
 
     private Request requestAt(int number) {
-        return number < 0 || number >= requestCount || number >= requests.length ? null : requests[number];
+        return number < 0 || number >= requests.length ? null : requests[number];
     }
 
     private static boolean isEnded(Worker worker) {
@@ -390,7 +391,7 @@ public final class WorkerRows {
 
     /** Null if the tool has as many as it may, or no number is left for one more. */
     private Worker startWorker(Tool tool) {
-        if (workerCount >= WORKER_LIMIT || countStaying(tool) >= most) {
+        if (workerCount >= workers.length || countStaying(tool) >= most) {
             return null;
         }
         Worker started = new Worker(workerCount, tool);
