@@ -1,43 +1,34 @@
-/** One or more methods for each promise of the document: ordinary inputs, its edges, and wrong inputs. */
-public final class PromisesTest {
-    private static final int NONE = WorkerRows.NONE;
-    private static final int[] FAR = {-1, Integer.MIN_VALUE, Integer.MAX_VALUE, 1000};
-
-    private static final int WAITING = 0;
-    private static final int RUNNING = 1;
-    private static final int DONE = 2;
-    private static final int CANCELLED = 3;
-
-    private static final int FREE = 0;
-    private static final int BUSY = 1;
-    private static final int ENDED = 2;
-
+/** One or more methods for each promise of the document; its boundaries stand in the two other tests. */
+public final class PromisesTest extends Scenes {
     public static void main(String[] args) {
+        says("Promise 1");
         newObjectIsEmpty();
-        newObjectTakesTheNearestMost();
-        newObjectTakesTheNearestBound();
-        newObjectTakesTheNearestIdle();
-        toolsAreNumberedUpToSix();
+        says("Promise 2");
+        toolsHaveTheirOwnEditionsAndQuirks();
+        says("Promise 3");
         editionEndsTheWorkersOfItsToolAlone();
         editionSendsRequestsBack();
         editionIsForLaterWorkers();
+        says("Promise 4");
         quirkIsTheOneOfNow();
-        quirkIsNotCutToAnInt();
-        requestsAreNumberedUpToAHundred();
-        requestRefusesWrongInputs();
+        says("Promise 5");
+        requestsHaveTheirOwnInputsAndSizes();
+        says("Promise 6");
         cancelOfEachState();
+        says("Promise 7");
         stepTakesTheLeastFreeWorker();
         stepStartsAtMostMostForEachTool();
-        stepStartsAtMostSixty();
         stepAnswersBarredOnesAtOnce();
+        says("Promise 8");
         finishGivesAndFrees();
         finishEndsAboveTheBound();
         finishOfAnUnwantedOne();
+        says("Promise 9");
         crashOfBusyFreeAndEnded();
+        says("Promise 10");
         tickEndsIdleOnes();
         tickCountsFromTheLastFinish();
-        tickRefusesWrongInputs();
-        tickRefusesAClockTooLate();
+        says("Promise 11");
         sampleThatIsTheSame();
         sampleThatDiffers();
         sampleOfATrustedOneThatDiffers();
@@ -45,54 +36,17 @@ public final class PromisesTest {
         sampleEndsABusyWorker();
         sampleWhenAnUnwantedOneIsRunning();
         sampleCountsUnwantedPlaces();
+        says("Promise 12");
         aboutEachWhat();
+        says("Promise 13");
         resultOfEachState();
+        says("Promise 14");
         workerEachWhat();
+        says("Promise 15");
         barsOfATool();
-        oneShotOfEdges();
+        says("Promise 16");
+        oneShotOfKnownOnes();
         Check.end();
-    }
-
-    private static void due(String what, long got, long want) {
-        Check.due("PromisesTest: " + what, got, want);
-    }
-
-    /** ONE-SHOT, written once more from the document's words. */
-    private static long fresh(long edition, long input) {
-        long first = edition ^ input;
-        long second = (first ^ (first >>> 31)) * -7046029254386353131L;
-        long third = (second ^ (second >>> 31)) * -7046029254386353131L;
-        return third + input;
-    }
-
-    private static void dueRequest(WorkerRows x, int request, int... want) {
-        for (int what = 0; what < want.length; what++) {
-            due("about(" + request + ", " + what + ")", x.about(request, what), want[what]);
-        }
-    }
-
-    private static void dueWorker(WorkerRows x, int worker, int... want) {
-        for (int what = 0; what < want.length; what++) {
-            due("worker(" + worker + ", " + what + ")", x.worker(worker, what), want[what]);
-        }
-    }
-
-    /** One tool and so many requests of size 0, with the inputs 100, 101, .. . */
-    private static WorkerRows withRequests(int most, long edition, int quirk, int requests) {
-        WorkerRows x = new WorkerRows(most, 100000, 10);
-        x.tool(edition, quirk);
-        for (int i = 0; i < requests; i++) {
-            x.request(0, 100 + i, 0);
-        }
-        return x;
-    }
-
-    /** The one worker 0 begins and finishes the next so many requests. */
-    private static void serve(WorkerRows x, int count) {
-        for (int i = 0; i < count; i++) {
-            x.step();
-            x.finish(0);
-        }
     }
 
     // Promise 1
@@ -110,67 +64,21 @@ public final class PromisesTest {
         due("two objects share nothing", new WorkerRows(2, 10, 10).bars(0), NONE);
     }
 
-    private static void newObjectTakesTheNearestMost() {
-        int[] given = {Integer.MIN_VALUE, 0, 1, 2, 3, 4, 5, Integer.MAX_VALUE};
-        int[] taken = {1, 1, 1, 2, 3, 4, 4, 4};
-        for (int i = 0; i < given.length; i++) {
-            due("begun with most " + given[i], withRequests(given[i], 1, 0, 9).step(), taken[i]);
-        }
-    }
-
-    private static void newObjectTakesTheNearestBound() {
-        for (int bound : new int[] {Integer.MIN_VALUE, -1, 0}) {
-            due("size 0 at bound " + bound, endedAfter(bound, 0), 0);
-            due("size 1 at bound " + bound, endedAfter(bound, 1), 2);
-        }
-        due("size 5 at bound 5", endedAfter(5, 5), 0);
-        due("size 6 at bound 5", endedAfter(5, 6), 2);
-        for (int bound : new int[] {99999, 100000, 100001, Integer.MAX_VALUE}) {
-            WorkerRows x = new WorkerRows(1, bound, 10);
-            x.tool(1, 0);
-            for (int i = 0; i < 100; i++) {
-                x.request(0, i, 1000);
-            }
-            serve(x, 100);
-            due("memory 100000", x.worker(0, 3), 100000);
-            due("memory 100000 at bound " + bound, x.worker(0, 5), bound < 100000 ? 2 : 0);
-        }
-    }
-
-    private static int endedAfter(int bound, int size) {
-        WorkerRows x = new WorkerRows(1, bound, 10);
-        x.tool(1, 0);
-        x.request(0, 1, size);
-        serve(x, 1);
-        return x.worker(0, 5);
-    }
-
-    private static void newObjectTakesTheNearestIdle() {
-        int[] given = {Integer.MIN_VALUE, 0, 1, 2, 999, 1000, 1001, Integer.MAX_VALUE};
-        int[] taken = {1, 1, 1, 2, 999, 1000, 1000, 1000};
-        for (int i = 0; i < given.length; i++) {
-            WorkerRows x = new WorkerRows(1, 10, given[i]);
-            x.tool(1, 0);
-            x.request(0, 1, 0);
-            serve(x, 1);
-            due("a tick before idle " + given[i], x.tick(taken[i] - 1), 0);
-            due("idle " + given[i], x.tick(1), 1);
-        }
-    }
-
     // Promise 2
 
-    private static void toolsAreNumberedUpToSix() {
+    private static void toolsHaveTheirOwnEditionsAndQuirks() {
         WorkerRows x = new WorkerRows(1, 10, 10);
-        for (int i = 0; i < 6; i++) {
-            due("tool " + i, x.tool(Long.MIN_VALUE + i, Integer.MIN_VALUE + i), i);
+        for (int i = 0; i < 3; i++) {
+            due("tool", x.tool(40 + i, 5 * i), i);
         }
-        due("a seventh tool", x.tool(1, 1), NONE);
-        due("request of the last tool", x.request(5, 1, 1), 0);
-        due("request of a seventh tool", x.request(6, 1, 1), NONE);
-        x.step();
-        x.finish(0);
-        due("result by the last tool", x.result(0), fresh(Long.MIN_VALUE + 5, 1));
+        for (int i = 0; i < 6; i++) {
+            x.request(i % 3, i, 0);
+        }
+        for (int i = 0; i < 6; i++) {
+            x.step();
+            due("finish", x.finish(i % 3), i);
+            due("result " + i, x.result(i), fresh(40 + i % 3, i) + (i < 3 ? 0 : 5 * (i % 3)));
+        }
     }
 
     // Promise 3
@@ -244,41 +152,21 @@ public final class PromisesTest {
         due("earlier ones stay", x.result(1), fresh(1, 101) + 5);
     }
 
-    private static void quirkIsNotCutToAnInt() {
-        for (int quirk : new int[] {Integer.MAX_VALUE, Integer.MIN_VALUE}) {
-            WorkerRows x = withRequests(1, -1, quirk, 4);
-            serve(x, 4);
-            due("three times " + quirk, x.result(3), fresh(-1, 103) + 3L * quirk);
-        }
-    }
-
     // Promise 5
 
-    private static void requestsAreNumberedUpToAHundred() {
-        WorkerRows x = new WorkerRows(1, 10, 10);
+    private static void requestsHaveTheirOwnInputsAndSizes() {
+        WorkerRows x = new WorkerRows(4, 10000, 10);
         x.tool(1, 0);
-        for (int i = 0; i < 100; i++) {
-            due("request " + i, x.request(0, i, i), i);
+        for (int i = 0; i < 4; i++) {
+            due("request", x.request(0, -7 * i, 10 + i), i);
+            dueRequest(x, i, WAITING, NONE, 0, 0, 0);
         }
-        due("request 100", x.request(0, 1, 1), NONE);
-        due("about the last", x.about(99, 0), WAITING);
-        due("about one behind it", x.about(100, 0), NONE);
-    }
-
-    private static void requestRefusesWrongInputs() {
-        WorkerRows x = new WorkerRows(1, 10, 10);
-        due("request without a tool", x.request(0, 1, 1), NONE);
-        x.tool(1, 0);
-        for (int far : FAR) {
-            due("request of tool " + far, x.request(far, 1, 1), NONE);
+        x.step();
+        for (int i = 0; i < 4; i++) {
+            due("finish", x.finish(i), i);
+            due("result " + i, x.result(i), fresh(1, -7 * i));
+            due("memory of worker " + i, x.worker(i, 3), 10 + i);
         }
-        due("request of tool 1 of 1", x.request(1, 1, 1), NONE);
-        for (int size : new int[] {-1, 1001, Integer.MIN_VALUE, Integer.MAX_VALUE}) {
-            due("size " + size, x.request(0, 1, size), NONE);
-        }
-        due("size 0", x.request(0, Long.MIN_VALUE, 0), 0);
-        due("size 1000", x.request(0, Long.MAX_VALUE, 1000), 1);
-        dueRequest(x, 1, WAITING, NONE, 0, 0, 0);
     }
 
     // Promise 6
@@ -338,33 +226,16 @@ public final class PromisesTest {
         dueRequest(x, 5, WAITING, NONE, 0, 0, 0);
     }
 
-    private static void stepStartsAtMostSixty() {
-        WorkerRows x = withRequests(4, 1, 0, 63);
-        for (int i = 0; i < 59; i++) {
-            x.step();
-            x.crash(i);
-        }
-        due("the workers up to 59", x.worker(59, 1), BUSY);
-        due("no worker 60", x.worker(60, 0), NONE);
-        due("no more are started", x.step(), 0);
-        x.finish(59);
-        due("the last one takes another", x.step(), 1);
-        dueWorker(x, 59, 0, BUSY, 1, 0, 60, 0, 0);
-        x.tool(2, 0);
-        due("request of another tool", x.request(1, 1, 0), 63);
-        due("it gets none", x.step(), 0);
-    }
-
     private static void stepAnswersBarredOnesAtOnce() {
         WorkerRows x = new WorkerRows(1, 100, 10);
         x.tool(1, 1);
         x.tool(9, 1);
-        barOften(x, 2);
+        barOften(x, 0, 2);
         int last = x.request(0, 77, 0);
         due("two bars begin with a worker", x.step(), 1);
         due("two bars begin with a worker", x.about(last, 0), RUNNING);
         x.finish(2);
-        barOften(x, 1);
+        barOften(x, 0, 1);
         due("bars", x.bars(0), 3);
         int first = x.request(0, 5, 0);
         int second = x.request(0, 6, 0);
@@ -377,20 +248,6 @@ public final class PromisesTest {
         due("by the tool's edition", x.result(second), fresh(40, 6));
         due("another tool isn't barred", x.about(other, 0), RUNNING);
         due("not done by a worker", x.sample(first), NONE);
-    }
-
-    /** Each time a worker finishes two for tool 0, and the second is sampled and differs. */
-    private static void barOften(WorkerRows x, int times) {
-        for (int i = 0; i < times; i++) {
-            for (int j = 0; j < 2; j++) {
-                int request = x.request(0, 1000 + i, 0);
-                x.step();
-                x.finish(x.about(request, 1));
-                if (j == 1) {
-                    Check.holds("PromisesTest: a sample differs", x.sample(request) > 0);
-                }
-            }
-        }
     }
 
     // Promise 8
@@ -526,30 +383,6 @@ public final class PromisesTest {
         both.finish(0);
         both.finish(1);
         due("of both tools", both.tick(5), 2);
-    }
-
-    private static void tickRefusesWrongInputs() {
-        WorkerRows x = withRequests(1, 1, 0, 1);
-        serve(x, 1);
-        for (int n : new int[] {-1, 10001, Integer.MIN_VALUE, Integer.MAX_VALUE}) {
-            due("tick(" + n + ")", x.tick(n), NONE);
-        }
-        due("they moved no clock", x.tick(9), 0);
-        due("they moved no clock", x.tick(1), 1);
-        due("tick(10000)", x.tick(10000), 0);
-    }
-
-    /** So late only behind the 512th call, where answers are free; the class keeps the edge all the same. */
-    private static void tickRefusesAClockTooLate() {
-        WorkerRows x = new WorkerRows(1, 10, 10);
-        for (int i = 0; i < 99999; i++) {
-            x.tick(10000);
-        }
-        due("up to 999999999", x.tick(9999), 0);
-        due("up to 1000000001", x.tick(2), NONE);
-        due("up to 1000000000", x.tick(1), 0);
-        due("no tick there", x.tick(0), 0);
-        due("up to 1000000001", x.tick(1), NONE);
     }
 
     // Promise 11
@@ -770,16 +603,11 @@ public final class PromisesTest {
 
     // Promise 16
 
-    private static void oneShotOfEdges() {
+    private static void oneShotOfKnownOnes() {
         WorkerRows x = new WorkerRows(1, 1, 1);
         due("oneShot(7, 5)", x.oneShot(7, 5), -2477363030560486656L);
         due("oneShot(-1, 123456789012345)", x.oneShot(-1, 123456789012345L), -155826393916119892L);
-        long[] edges = {0, 1, -1, 1L << 31, 1L << 32, Long.MIN_VALUE, Long.MAX_VALUE, 0x9E3779B97F4A7C15L};
-        for (long edition : edges) {
-            due("oneShot of " + edition + " twice", x.oneShot(edition, edition), edition);
-            for (long input : edges) {
-                due("oneShot(" + edition + ", " + input + ")", x.oneShot(edition, input), fresh(edition, input));
-            }
-        }
+        x.tool(7, 0);
+        due("no tool has a say in it", x.oneShot(7, 5), -2477363030560486656L);
     }
 }
