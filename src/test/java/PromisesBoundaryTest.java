@@ -514,8 +514,9 @@ public final class PromisesBoundaryTest extends Scenes {
     private static void aboutOfNoRequest() {
         says("about: NONE if there is none such");
         for (int request : NO_REQUEST) {
-            for (int what = 0; what <= 4; what++) {
-                due("about(" + request + ", " + what + ")", mixed().about(request, what), NONE);
+            for (int i = 0; i <= 4; i++) {
+                int what = i;
+                refused("about(" + request + ", " + what + ")", x -> x.about(request, what), NONE);
             }
         }
         due("of a new object", new WorkerRows(1, 1, 1).about(0, 0), NONE);
@@ -622,8 +623,9 @@ public final class PromisesBoundaryTest extends Scenes {
     private static void workerOfNoWorker() {
         says("worker: NONE if there is none such");
         for (int worker : NO_WORKER) {
-            for (int what = 0; what <= 6; what++) {
-                due("worker(" + worker + ", " + what + ")", mixed().worker(worker, what), NONE);
+            for (int i = 0; i <= 6; i++) {
+                int what = i;
+                refused("worker(" + worker + ", " + what + ")", x -> x.worker(worker, what), NONE);
             }
         }
         due("of a new object", new WorkerRows(1, 1, 1).worker(0, 0), NONE);
